@@ -156,7 +156,7 @@ public final class CoatVotes {
         switch (what) {
             case 0: return now.quorum[motion];
             case 1: return favour;
-            case 2: return now.laws >> motion & 1;
+            case 2: return (now.laws >> motion) & 1;
             case 3: return now.folk.countsOf(favour);
             case 4: return now.folk.countsOf(~favour);
             case 5: return now.folk.wouldPass(favour, now.quorum[motion]) ? 1 : 0;
@@ -197,7 +197,7 @@ public final class CoatVotes {
             return fail(FULL);
         }
         for (int i = 0; i < n; i++) {
-            now.tape[now.taped + i] = (int) (word >>> 8 * i & 255);
+            now.tape[now.taped + i] = (int) ((word >>> (8 * i)) & 255);
         }
         now.taped += n;
         return now.taped;
@@ -338,7 +338,7 @@ public final class CoatVotes {
         boolean passes = now.folk.wouldPass(favour, quorum);
         int set = 0;
         for (int p = 0; p < now.folk.size; p++) {
-            if (now.folk.wouldPass(favour ^ 1 << p, quorum) != passes) {
+            if (now.folk.wouldPass(favour ^ (1 << p), quorum) != passes) {
                 set |= 1 << p;
             }
         }
@@ -363,7 +363,7 @@ public final class CoatVotes {
 
     public int plan(int set, int n, int what) {
         int size = Integer.bitCount(set);
-        if (set < 1 || set >= 1 << now.motions || size > 3) {
+        if (set < 1 || set >= (1 << now.motions) || size > 3) {
             return fail(BEYOND);
         }
         if (n < 1 || n > 5 || what < -2 || what >= size) {
@@ -413,7 +413,7 @@ public final class CoatVotes {
         }
         int sets = 0;
         int least = -1;
-        for (int set = 0; set < 1 << now.folk.size; set++) {
+        for (int set = 0; set < (1 << now.folk.size); set++) {
             if (now.folk.hornOf(set) == told.numbers[0] && now.folk.brassOf(set) == told.numbers[1]) {
                 sets++;
                 least = least < 0 ? set : least;
@@ -465,7 +465,7 @@ public final class CoatVotes {
     }
 
     public int sheet(int sheet, int bits, int n) {
-        if (!isSheet(sheet) || bits != 0 && bits != 8 && bits != 16 && bits != 32) {
+        if (!isSheet(sheet) || !isBits(bits)) {
             return fail(BEYOND);
         }
         if (bits != 0 && n < 0) {
@@ -624,11 +624,15 @@ public final class CoatVotes {
     }
 
     private boolean isSetOfPeople(int set) {
-        return set >= 0 && set < 1 << MOST_PEOPLE;
+        return set >= 0 && set < (1 << MOST_PEOPLE);
     }
 
     private boolean isSheet(int sheet) {
         return sheet >= 0 && sheet < MOST_SHEETS;
+    }
+
+    private boolean isBits(int bits) {
+        return bits == 0 || bits == 8 || bits == 16 || bits == 32;
     }
 
     private static boolean isUnder(int kind, int other) {
@@ -690,7 +694,7 @@ public final class CoatVotes {
         for (int day = 0; day < n; day++) {
             int place = Integer.bitCount(set);
             for (int i = 0; i < now.motions; i++) {
-                if ((set >> i & 1) == 0) {
+                if (((set >> i) & 1) == 0) {
                     continue;
                 }
                 place--;
@@ -800,7 +804,7 @@ public final class CoatVotes {
         int countsOf(int set) {
             int all = 0;
             for (int p = 0; p < size; p++) {
-                all += (set >> p & 1) * counts(p);
+                all += ((set >> p) & 1) * counts(p);
             }
             return all;
         }
@@ -808,7 +812,7 @@ public final class CoatVotes {
         int hornOf(int set) {
             int all = 0;
             for (int p = 0; p < size; p++) {
-                all += (set >> p & 1) * cutsHorn(p);
+                all += ((set >> p) & 1) * cutsHorn(p);
             }
             return all;
         }
@@ -816,7 +820,7 @@ public final class CoatVotes {
         int brassOf(int set) {
             int all = 0;
             for (int p = 0; p < size; p++) {
-                all += (set >> p & 1) * cutsBrass(p);
+                all += ((set >> p) & 1) * cutsBrass(p);
             }
             return all;
         }
@@ -997,8 +1001,8 @@ public final class CoatVotes {
 
         private static int apply(int sign, int left, int right) {
             switch (sign) {
-                case '|': return left != 0 || right != 0 ? 1 : 0;
-                case '&': return left != 0 && right != 0 ? 1 : 0;
+                case '|': return (left != 0 || right != 0) ? 1 : 0;
+                case '&': return (left != 0 && right != 0) ? 1 : 0;
                 case '<': return left < right ? 1 : 0;
                 case '=': return left == right ? 1 : 0;
                 case '>': return left > right ? 1 : 0;
