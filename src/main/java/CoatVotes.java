@@ -156,7 +156,7 @@ public final class CoatVotes {
         switch (what) {
             case 0: return now.quorum[motion];
             case 1: return favour;
-            case 2: return (now.laws >> motion) & 1;
+            case 2: return isIn(now.laws, motion) ? 1 : 0;
             case 3: return now.folk.countsOf(favour);
             case 4: return now.folk.countsOf(~favour);
             case 5: return now.folk.wouldPass(favour, now.quorum[motion]) ? 1 : 0;
@@ -635,6 +635,10 @@ public final class CoatVotes {
         return bits == 0 || bits == 8 || bits == 16 || bits == 32;
     }
 
+    private static boolean isIn(int set, int i) {
+        return ((set >> i) & 1) != 0;
+    }
+
     private static boolean isUnder(int kind, int other) {
         int k = kind;
         for (int i = 0; i < KINDS && k >= 0; i++) {
@@ -694,7 +698,7 @@ public final class CoatVotes {
         for (int day = 0; day < n; day++) {
             int place = Integer.bitCount(set);
             for (int i = 0; i < now.motions; i++) {
-                if (((set >> i) & 1) == 0) {
+                if (!isIn(set, i)) {
                     continue;
                 }
                 place--;
@@ -804,7 +808,9 @@ public final class CoatVotes {
         int countsOf(int set) {
             int all = 0;
             for (int p = 0; p < size; p++) {
-                all += ((set >> p) & 1) * counts(p);
+                if (isIn(set, p)) {
+                    all += counts(p);
+                }
             }
             return all;
         }
@@ -812,7 +818,9 @@ public final class CoatVotes {
         int hornOf(int set) {
             int all = 0;
             for (int p = 0; p < size; p++) {
-                all += ((set >> p) & 1) * cutsHorn(p);
+                if (isIn(set, p)) {
+                    all += cutsHorn(p);
+                }
             }
             return all;
         }
@@ -820,7 +828,9 @@ public final class CoatVotes {
         int brassOf(int set) {
             int all = 0;
             for (int p = 0; p < size; p++) {
-                all += ((set >> p) & 1) * cutsBrass(p);
+                if (isIn(set, p)) {
+                    all += cutsBrass(p);
+                }
             }
             return all;
         }
