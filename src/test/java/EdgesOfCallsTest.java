@@ -28,6 +28,7 @@ final class EdgesOfCallsTest {
         judge();
         image();
         imageKeeps();
+        fewer();
         imageLeaves();
         tell();
         check();
@@ -121,7 +122,8 @@ final class EdgesOfCallsTest {
         DUE.is("nothing against it", x.ofMotion(0, 4), 0);
         DUE.is("it PASSES", x.vote(0), 1);
         DUE.about("Promise 9", "FOR of a MOTION becomes a set: what it was.");
-        x.side(0, 1);
+        x.side(0, 255);
+        DUE.is("from all, of one", x.side(0, 1), 255);
         DUE.is("from 1", x.side(0, 0), 1);
         DUE.is("from 0", x.side(0, 1), 0);
         DUE.is("it stays LAW", x.ofMotion(0, 2), 1);
@@ -539,6 +541,7 @@ final class EdgesOfCallsTest {
         isAgain(x, ahead, "MOTIONS");
         x.side(0, 3);
         isAgain(x, ahead, "FOR");
+        x.change(1, 1, 9);
         x.vote(0);
         isAgain(x, ahead, "THE URN");
         x.set(0, 7);
@@ -560,13 +563,18 @@ final class EdgesOfCallsTest {
         x.text(1);
         isAgain(x, ahead, "the TEXT of COLD, THE TAPE");
         x.text(1);
+        Due.feed(x, "55");
         x.restore();
         DUE.is("the byte of THE TAPE", x.text(1) + x.law(1, 0, 0, 0), 8);
+        x.check();
+        x.tell(9);
+        x.restore();
+        DUE.is("the number that waits", x.check(), 0);
         x.restore();
         x.side(0, 3);
+        x.set(1, 9);
         x.vote(0);
-        x.vote(0);
-        DUE.is("the number that waits", x.check(), 0);
+        DUE.is("a new LAW", x.count(4), 3);
         x.restore();
         DUE.is("LAWS", x.count(4), 2);
     }
@@ -585,11 +593,50 @@ final class EdgesOfCallsTest {
             x.ofPerson(1, 4), x.ofPerson(1, 5), x.ofPerson(0, 9), x.ofMotion(0, 1), x.ofMotion(0, 2)};
     }
 
+    /** Those who came behind image() are not there behind restore(), and who comes then has all as at first. */
+    private static void fewer() {
+        DUE.about("Promise 36", "All is as the IMAGE has it (fewer PEOPLE and MOTIONS)");
+        CoatVotes x = Due.people(20, 20);
+        x.motion(0, 4);
+        x.image();
+        x.person(69);
+        x.person(0);
+        x.motion(9, 7);
+        Due.has(x, 2, 9, 9, 50, 50);
+        x.side(1, 3);
+        x.restore();
+        DUE.is("nobody is for it", x.ofMotion(0, 3), 0);
+        DUE.is("nobody turns", x.turning(0), 0);
+        DUE.is("two live", x.live(0), 3);
+        DUE.is("the two alone", x.tailor(9), 0);
+        DUE.is("nobody freezes in 9", x.harder(9), Due.NONE);
+        Due.sheet(x, 0, 8, 0, 0);
+        DUE.is("four sets that cut nothing", x.voted(0, 0), 4);
+        DUE.is("none is too many", x.judge(0), -1);
+        x.vote(0);
+        DUE.is("nothing lies in THE URN", x.count(5) + x.count(6), 0);
+        DUE.is("two live then", x.days(1), 2);
+        DUE.is("no third", x.ofPerson(2, 0), Due.BEYOND);
+        DUE.is("no second MOTION", x.ofMotion(1, 0), Due.BEYOND);
+        DUE.about("Terms 1", "4 and 1 at first; 0 at first; 99 at first; FOR .. nobody, at first; LAW or not (at first)");
+        DUE.is("a new third", x.person(31), 2);
+        int[] due = {3, 1, 4, 1, 0, 99};
+        for (int what = 0; what < due.length; what++) {
+            DUE.is("ofPerson(2, " + what + ")", x.ofPerson(2, what), due[what]);
+        }
+        DUE.is("a new second", x.motion(5, 1), 1);
+        int[] motion = {5, 1, 0, 0, 3, 0};
+        for (int what = 0; what < motion.length; what++) {
+            DUE.is("ofMotion(1, " + what + ")", x.ofMotion(1, what), motion[what]);
+        }
+    }
+
     private static void imageLeaves() {
         DUE.about("Promise 35", "All (but SHEETS, THE TRACE, what told() tells, ..)");
         CoatVotes x = Due.people(0);
         x.sheet(0, 8, 1);
         x.sheet(1, 8, 1);
+        x.sheet(3, 8, 1);
         x.voice(0, 0, 1);
         x.image();
         x.sheet(0, 0, 0);
@@ -601,6 +648,7 @@ final class EdgesOfCallsTest {
         DUE.is("SHEET 0 is missing", x.judge(0), Due.NONE);
         DUE.is("SHEET 1 has its 5", x.healths(1) + x.ofPerson(0, 5), 6);
         DUE.is("SHEET 2 is there", x.put(2, 1, 0), 1);
+        DUE.is("SHEET 3 is as it was", x.put(3, 0, 0), 1);
         DUE.is("THE TRACE", x.count(12), 2);
         DUE.is("THE TRACE", x.trace(0), 11);
         DUE.is("told(1)", x.told(1), 1);

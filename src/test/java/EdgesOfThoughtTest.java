@@ -25,6 +25,7 @@ final class EdgesOfThoughtTest {
         planDays();
         planVotes();
         planLives();
+        planLaws();
         planFirst();
         tailor();
         voted();
@@ -241,6 +242,9 @@ final class EdgesOfThoughtTest {
         for (int place = 0; place < 3; place++) {
             DUE.is("the DAY of that at place " + place, x.plan(1 + 8 + 32, 5, place), 4);
         }
+        DUE.is("two of them", x.plan(2 + 4, 5, -1), 2);
+        DUE.is("the first on the last DAY", x.plan(2 + 4, 5, 0), 4);
+        DUE.is("the second on the last DAY", x.plan(2 + 4, 5, 1), 4);
         DUE.is("no fourth place", x.plan(1 + 8 + 32, 5, 3), Due.BEYOND);
         DUE.is("no second of one", x.plan(1, 5, 1), Due.BEYOND);
         DUE.is("four of them", x.plan(15, 5, -1), Due.BEYOND);
@@ -300,11 +304,37 @@ final class EdgesOfThoughtTest {
         y.motion(99, 255);
         DUE.is("all eight live", y.plan(2, 5, -2), 8);
         DUE.is("none PASSES", y.plan(2, 5, -1), 0);
+        DUE.is("one PASSES", y.plan(1, 5, -1), 1);
+        DUE.is("and all eight live", y.plan(1, 5, -2), 8);
         y.change(7, 3, 0);
         DUE.is("seven live", y.plan(1, 1, -2), 7);
         Due.text(y, 0, "99*(o>0)");
         DUE.is("that it PASSES is ahead of seven lives", y.plan(1, 2, -2), 0);
         DUE.is("it PASSES", y.plan(1, 2, -1), 1);
+    }
+
+    private static void planLaws() {
+        DUE.about("Terms 1", "then it is LAW (in a PLAN, too, for the COLD of its DAYS; a LAW once)");
+        CoatVotes x = Due.people(PASSIONATE);
+        x.motion(1, 1);
+        x.motion(1, 1);
+        x.motion(99, 1);
+        Due.text(x, 0, "c");
+        Due.text(x, 1, "l*9");
+        Due.has(x, 0, 4, 0, 0, 10);
+        DUE.is("no LAW, no COLD", x.plan(4, 2, -2), 1);
+        DUE.is("9 on one DAY", x.plan(1, 2, 0), 1);
+        DUE.is("9 on two is too much, none on the first", x.plan(1, 2, -2), 1);
+        DUE.is("18 is too much, 9 on the first, too", x.plan(3, 2, -2), 0);
+        x.vote(1);
+        Due.has(x, 0, 4, 0, 0, 28);
+        DUE.is("a LAW that PASSES once more makes 9 of 9", x.plan(2, 3, -2), 1);
+        DUE.is("another makes 18: on the last of two, 27", x.plan(1, 2, 0), 1);
+        DUE.is("one lives", x.plan(1, 2, -2), 1);
+        Due.has(x, 0, 4, 0, 0, 27);
+        DUE.is("27 are too much", x.plan(1, 2, -2), 0);
+        DUE.is("three times 9, too: one that is LAW stays it", x.plan(2, 3, -2), 0);
+        DUE.is("only thought", x.count(4), 2);
     }
 
     private static void planFirst() {
@@ -361,6 +391,8 @@ final class EdgesOfThoughtTest {
         x.change(1, 3, 0);
         DUE.is("the DEAD need none", x.tailor(60), 0);
         DUE.is("nobody is there", new CoatVotes().tailor(60), 0);
+        DUE.is("all eight", losesOneADay(60, 60, 60, 60, 60, 60, 60, 60).tailor(60), 8);
+        DUE.is("the eighth alone", losesOneADay(61, 61, 61, 61, 61, 61, 61, 60).tailor(60), 1);
     }
 
     private static int voted(CoatVotes x, int horn, int brass, int what) {
@@ -389,6 +421,7 @@ final class EdgesOfThoughtTest {
         DUE.is("the DEAD cut nothing, and are in sets", voted(x, 1, 1, 0), 2);
         x.person(STRING);
         DUE.is("string cuts nothing, too", voted(x, 0, 0, 0), 4);
+        DUE.is("the least of them is nobody", voted(x, 0, 0, 1), 0);
         CoatVotes all = Due.people(RADICAL, RADICAL, RADICAL, RADICAL, RADICAL, RADICAL, RADICAL, RADICAL);
         for (int p = 0; p < 8; p++) {
             all.change(p, 1, 0);
@@ -426,6 +459,8 @@ final class EdgesOfThoughtTest {
         DUE.is("10 isn't asked", x.harder(60), Due.NONE);
         Due.text(x, 1, "99*(w=4)");
         DUE.is("4 alone", x.harder(2), 4);
+        x.change(0, 3, 1);
+        DUE.is("one of HEALTH 1", x.harder(1), 4);
         x.change(0, 3, 0);
         DUE.is("the DEAD don't count", x.harder(60), Due.NONE);
         DUE.is("nobody is there", new CoatVotes().harder(60), Due.NONE);

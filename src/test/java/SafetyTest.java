@@ -43,9 +43,10 @@ final class SafetyTest {
 
     private static void wild(Due due, List<Method> face) throws ReflectiveOperationException {
         Random random = new Random(7);
-        for (int run = 0; run < 400; run++) {
+        for (int run = 0; run < 404; run++) {
             CoatVotes x = new CoatVotes();
-            for (int i = 0; i < 512; i++) {
+            // Behind its 512th call an object may answer anything, but not throw.
+            for (int i = 0; i < (run < 400 ? 512 : 20000); i++) {
                 Method m = face.get(random.nextInt(face.size()));
                 Object[] values = new Object[m.getParameterCount()];
                 for (int k = 0; k < values.length; k++) {
