@@ -595,7 +595,7 @@ final class EdgesOfCallsTest {
 
     /** Those who came behind image() are not there behind restore(), and who comes then has all as at first. */
     private static void fewer() {
-        DUE.about("Promise 36", "All is as the IMAGE has it (fewer PEOPLE and MOTIONS)");
+        DUE.about("Promise 36", "All is as the IMAGE has it");
         CoatVotes x = Due.people(20, 20);
         x.motion(0, 4);
         x.image();
@@ -618,7 +618,7 @@ final class EdgesOfCallsTest {
         DUE.is("two live then", x.days(1), 2);
         DUE.is("no third", x.ofPerson(2, 0), Due.BEYOND);
         DUE.is("no second MOTION", x.ofMotion(1, 0), Due.BEYOND);
-        DUE.about("Terms 1", "4 and 1 at first; 0 at first; 99 at first; FOR .. nobody, at first; LAW or not (at first)");
+        DUE.about("Terms 1", "4 and 1 at first .. 0 at first .. 99 at first .. LAW or not (at first)");
         DUE.is("a new third", x.person(31), 2);
         int[] due = {3, 1, 4, 1, 0, 99};
         for (int what = 0; what < due.length; what++) {

@@ -80,7 +80,7 @@ final class EdgesOfPeopleTest {
     }
 
     private static void kinds() {
-        DUE.about(FIRST, "of KINDS: 0 COAT .. 6 RADICAL; with a number m (0 to 9)");
+        DUE.about(FIRST, "of KINDS: 0 COAT; .. 6 RADICAL under PASSIONATE; with a number m (0 to 9)");
         CoatVotes x = Due.people(0, 9, 10, 19, 60, 69);
         int[][] due = {{0, 0}, {0, 9}, {1, 0}, {1, 9}, {6, 0}, {6, 9}};
         for (int p = 0; p < due.length; p++) {
@@ -90,7 +90,7 @@ final class EdgesOfPeopleTest {
         DUE.is("below KIND 0", x.person(-1), Due.BEYOND);
         DUE.is("above KIND 6", x.person(70), Due.BEYOND);
         String[] under = {"0", "01", "02", "03", "014", "025", "036"};
-        DUE.about(FIRST, "GREATCOAT, STRING, PASSIONATE under COAT; SENATOR under GREATCOAT; BEGGAR under STRING; RADICAL under PASSIONATE");
+        DUE.about(FIRST, "1 GREATCOAT, 2 STRING, 3 PASSIONATE under COAT; 4 SENATOR under GREATCOAT; 5 BEGGAR under STRING; 6 RADICAL under PASSIONATE");
         for (int kind = 0; kind < 7; kind++) {
             x.become(0, 10 * kind + 5);
             for (int above = 0; above < 7; above++) {
@@ -128,7 +128,7 @@ final class EdgesOfPeopleTest {
     }
 
     private static void openInVotes() {
-        DUE.about(FIRST, "OPEN so much more (99 at most)");
+        DUE.about(FIRST, "99 at most .. what they CUT is less, OPEN so much more");
         CoatVotes x = Due.people(RADICAL);
         x.motion(0, 1);
         x.change(0, 2, 97);
@@ -145,7 +145,7 @@ final class EdgesOfPeopleTest {
     }
 
     private static void health() {
-        DUE.about(FIRST, "HEALTH (0 to 99; 99 at first; DEAD, if that is 0)");
+        DUE.about(FIRST, "HEALTH (0 to 99; 99 at first); DEAD, if that is 0.");
         CoatVotes x = Due.people(COAT);
         DUE.is("100", x.change(0, 3, 100), Due.BEYOND);
         DUE.is("-1", x.change(0, 3, -1), Due.BEYOND);
@@ -174,7 +174,7 @@ final class EdgesOfPeopleTest {
     }
 
     private static void quorum() {
-        DUE.about(FIRST, "QUORUM (0 to 99)");
+        DUE.about(FIRST, "QUORUM (0 to 99; ..");
         CoatVotes x = new CoatVotes();
         DUE.is("-1", x.motion(-1, 0), Due.BEYOND);
         DUE.is("100", x.motion(100, 0), Due.BEYOND);

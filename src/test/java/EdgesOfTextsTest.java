@@ -61,7 +61,7 @@ final class EdgesOfTextsTest {
     }
 
     private static void chains() {
-        DUE.about(SECOND, "T: A { | A }. A: B { & B }. S: P { + P, - P }. P: Q { * Q, / Q, % Q }.");
+        DUE.about(SECOND, "T: A { | A }. A: B { & B }. .. S: P { + P, - P }. P: Q { * Q, / Q, % Q }.");
         for (char sign : "|&+-*/%".toCharArray()) {
             reads(0, "c" + sign + "o");
             reads(0, "c" + sign + "o" + sign + "h" + sign + "c");
@@ -69,7 +69,7 @@ final class EdgesOfTextsTest {
             fault(0, sign + "c", 0);
             fault(0, "c" + sign + sign + "o", 2);
         }
-        DUE.about(SECOND, "A: B { & B }. S: P { + P, - P }. P: Q { * Q, / Q, % Q }. (from the left)");
+        DUE.about(SECOND, "S: P { + P, - P }. P: Q { * Q, / Q, % Q }.");
         gives("c-o-h", 50, 20, 7, 23);
         gives("c-o+h", 50, 20, 7, 37);
         gives("c/o/h", 90, 6, 5, 3);
@@ -288,7 +288,7 @@ final class EdgesOfTextsTest {
 
     /** With which bytes a TEXT begins, and with which it goes on behind a NAME, an operator, a comparison. */
     private static void everyByte() {
-        DUE.about(SECOND, "FAULT: the place of the first byte with which no TEXT goes on (each of the 256 bytes)");
+        DUE.about(SECOND, "FAULT: the place of the first byte with which no TEXT goes on");
         String[] ahead = {"", "c", "(c", "c+", "c<", "c<o", "1", "1234", "!"};
         String signs = "|&<=>+-*/%";
         String[] goesOn = {"coh!(0123456789", signs, signs + ")", "coh!(0123456789", "coh!(0123456789", "|&+-*/%", signs + "0123456789", signs,

@@ -227,7 +227,7 @@ final class EdgesOfThoughtTest {
     }
 
     private static void planDays() {
-        DUE.about(THIRD, "PLAN of a set of MOTIONS (1 to 3 of them) in n DAYS (1 to 5): each MOTION gets a DAY of the next n (0: today)");
+        DUE.about(THIRD, "PLAN of a set of MOTIONS (1 to 3 of them) in n DAYS (1 to 5): each MOTION gets a DAY of the next n (0: today; ..");
         CoatVotes x = Due.people(COAT);
         for (int i = 0; i < 6; i++) {
             x.motion(1, 1);
@@ -276,7 +276,7 @@ final class EdgesOfThoughtTest {
         DUE.is("the first behind the second", x.plan(1 + 2, 2, 0), 1);
         DUE.is("the second", x.plan(1 + 2, 2, 1), 0);
         DUE.is("both PASS", x.plan(1 + 2, 2, -1), 2);
-        DUE.about(THIRD, "by which most of them PASS (one that is LAW, too)");
+        DUE.about(THIRD, "by which most of them PASS");
         x.change(0, 1, 9);
         x.vote(1);
         DUE.is("LAW", x.count(4), 2);
@@ -313,8 +313,9 @@ final class EdgesOfThoughtTest {
         DUE.is("it PASSES", y.plan(1, 2, -1), 1);
     }
 
+    /** A MOTION that PASSES in a PLAN is LAW for the COLD of its DAYS, once. */
     private static void planLaws() {
-        DUE.about("Terms 1", "then it is LAW (in a PLAN, too, for the COLD of its DAYS; a LAW once)");
+        DUE.about("Terms 1", "then it is LAW");
         CoatVotes x = Due.people(PASSIONATE);
         x.motion(1, 1);
         x.motion(1, 1);
