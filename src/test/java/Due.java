@@ -80,7 +80,7 @@ final class Due {
         }
     }
 
-    /** A call as it is written: its name, and numbers in round brackets, MIN and MAX among them. */
+    /** A call as it is written: its name, and numbers in round brackets, hexadecimal ones, MIN and MAX among them. */
     static int call(CoatVotes x, String written) throws ReflectiveOperationException {
         String name = written.substring(0, written.indexOf('('));
         String inside = written.substring(name.length() + 1, written.length() - 1);
@@ -89,7 +89,7 @@ final class Due {
             if (m.getName().equals(name) && m.getParameterCount() == parts.length) {
                 Object[] values = new Object[parts.length];
                 for (int i = 0; i < parts.length; i++) {
-                    long v = parts[i].equals("MIN") ? MIN : parts[i].equals("MAX") ? MAX : Long.parseLong(parts[i]);
+                    long v = parts[i].equals("MIN") ? MIN : parts[i].equals("MAX") ? MAX : Long.decode(parts[i].replace("L", ""));
                     values[i] = m.getParameterTypes()[i] == long.class ? (Object) v : (Object) (int) v;
                 }
                 return (int) m.invoke(x, values);
